@@ -79,7 +79,7 @@ public final class QuotaOverlay {
     public int zeros(int identity, int nonce, int epoch) throws IllegalArgumentException {
         refuseOutside(identity, 0, LAST_IDENTITY);
         refuseOutside(nonce, 0, LAST_NONCE);
-        refuseOutside(epoch, 0, Integer.MAX_VALUE);
+        refuseNegative(epoch);
         return Puzzle.leadingZeros(identity, nonce, epoch);
     }
 
@@ -168,7 +168,7 @@ public final class QuotaOverlay {
     }
 
     public int memberAt(int index) throws IllegalArgumentException {
-        refuseOutside(index, 0, Integer.MAX_VALUE);
+        refuseNegative(index);
         int rank = 0;
         for (int identity = 0; identity <= LAST_IDENTITY; identity++) {
             if (now.isMember(identity)) {
@@ -184,7 +184,7 @@ public final class QuotaOverlay {
     public int entry(int identity, int bucket, int index, int what)
             throws IllegalArgumentException, IllegalStateException {
         refuseOutside(bucket, 0, BUCKETS - 1);
-        refuseOutside(index, 0, Integer.MAX_VALUE);
+        refuseNegative(index);
         refuseOutside(what, 0, 1);
         raise(memberFault(identity));
         int place = Tables.bucketPlace(now.rowOf[identity], bucket);
@@ -363,6 +363,12 @@ public final class QuotaOverlay {
     private static void refuseOutside(int value, int low, int high) {
         if (isOutside(value, low, high)) {
             throw new IllegalArgumentException("an argument is out of range");
+        }
+    }
+
+    private static void refuseNegative(int value) {
+        if (value < 0) {
+            throw new IllegalArgumentException("an argument is negative");
         }
     }
 
@@ -614,7 +620,9 @@ public final class QuotaOverlay {
             }
             counts[refusal]++;
             if (refusal == FULL_BUCKET) {
-                tables.moveFirstToEnd(place);
+                // In a full bucket the first entry makes room, here for itself at the end.
+                int first = place * BUCKET_CAPACITY;
+                tables.append(place, tables.identities[first], tables.origins[first]);
             }
         }
 
@@ -740,14 +748,6 @@ public final class QuotaOverlay {
             identities[spot] = identity;
             origins[spot] = origin;
             sizes[place]++;
-        }
-
-        void moveFirstToEnd(int place) {
-            int first = place * BUCKET_CAPACITY;
-            int identity = identities[first];
-            int origin = origins[first];
-            removeAt(place, 0);
-            append(place, identity, origin);
         }
 
         /** Counts the entries of an origin in several buckets that follow each other. */

@@ -104,7 +104,7 @@ public final class PromiseTest {
         due(what + " undone", valuesOf(x), values);
     }
 
-    /** Ticks that are taken back leave room for one more, so that what is counted here is at most 2. */
+    /** The number of saved states, or 2 if there are 3: no call tells it without losing the oldest one. */
     private static int savedStates(QuotaOverlay x) {
         x.tick(1);
         return x.undo();
@@ -668,6 +668,7 @@ public final class PromiseTest {
             {"tick 1;jo", 7}, {"tick 1;  jo;", 9}, {"tick 1;join", 11}, {"tick 1; hop", 8}, {"tickk 1;", 0},
             {"tic k 1;", 0}, {"ti", 0}, {"tick 1;" + (char) 0, 7}, {"tick 1" + (char) 127, 6}, {"look{", 4},
             {"look`", 4}, {"tick /;", 5}, {"tick :;", 5}, {"leavelook 1;", 0},
+            {"xoin 1 0 1;", 0}, {"zeave 1;", 0}, {"kook 1 1;", 0}, {"pick 1;", 0}, {"tickz 1;", 0}, {"ticka 1;", 0},
         };
         for (Object[] fault : faults) {
             QuotaOverlay x = new QuotaOverlay();
