@@ -1,133 +1,7 @@
-import java.math.BigInteger;
-
 /** For each promise ordinary inputs, the edges that the document names, and wrong inputs. */
-public final class PromiseTest {
-    private static final int NONE = QuotaOverlay.NONE;
-    private static final Class<?> ARGUMENT = IllegalArgumentException.class;
-    private static final Class<?> STATE = IllegalStateException.class;
-    private static final Class<?> UNSUPPORTED = UnsupportedOperationException.class;
-    private static int wrong = 0;
-    private static int checks = 0;
-    private static int promise = 0;
-
-    private interface Call {
-        long answer();
-    }
-
-    private static void due(String what, long got, long want) {
-        checks++;
-        if (got != want) {
-            wrong++;
-            System.out.println("promise " + promise + ": " + what + " answered " + got + ", due is " + want);
-        }
-    }
-
-    /** The call must throw just this, and must change nothing, the undo stack included. */
-    private static void refused(QuotaOverlay x, String what, Class<?> kind, Call call) {
-        checks++;
-        long before = x.digest();
-        Class<?> thrown = null;
-        try {
-            call.answer();
-        } catch (RuntimeException e) {
-            thrown = e.getClass();
-        }
-        if (thrown != kind) {
-            wrong++;
-            System.out.println("promise " + promise + ": " + what + " threw " + thrown + ", due is " + kind);
-        }
-        due(what + " changes nothing", x.digest(), before);
-    }
-
-    /** An overlay in which everybody may join with any nonce for some time, and quotas hold nobody back. */
-    private static QuotaOverlay open() {
-        QuotaOverlay x = new QuotaOverlay();
-        x.setPuzzles(0, 1000, 100);
-        x.setQuotas(4, 32);
-        return x;
-    }
-
-    private static QuotaOverlay withMembers(int... identities) {
-        QuotaOverlay x = open();
-        for (int i = 0; i < identities.length; i++) {
-            x.admit(identities[i], 0, i == 0 ? NONE : identities[0]);
-        }
-        return x;
-    }
-
-    private static int runOf(QuotaOverlay x, String text) {
-        x.clearScript();
-        for (int i = 0; i < text.length(); i++) {
-            x.type(text.charAt(i));
-        }
-        return x.run();
-    }
-
-    private static String table(QuotaOverlay x, int identity) {
-        StringBuilder text = new StringBuilder();
-        for (int bucket = 0; bucket < 8; bucket++) {
-            for (int index = 0; x.entry(identity, bucket, index, 0) != NONE; index++) {
-                text.append(bucket).append(':').append(x.entry(identity, bucket, index, 0))
-                        .append('/').append(x.entry(identity, bucket, index, 1)).append(' ');
-            }
-        }
-        return text.toString().trim();
-    }
-
-    private static void dueTable(QuotaOverlay x, int identity, String want) {
-        checks++;
-        String got = table(x, identity);
-        if (!got.equals(want)) {
-            wrong++;
-            System.out.println("promise " + promise + ": the table of " + identity + " is " + got + ", due is " + want);
-        }
-    }
-
-    private static void dueOverlay(QuotaOverlay x, int... want) {
-        for (int what = 0; what < want.length; what++) {
-            due("overlay(" + what + ")", x.overlay(what), want[what]);
-        }
-    }
-
-    private static void dueCounts(QuotaOverlay x, int... want) {
-        for (int what = 0; what < want.length; what++) {
-            due("count(" + what + ")", x.count(what), want[what]);
-        }
-    }
-
-    /** The call is undoable: it saves one state, and undo() brings the one from before it back. */
-    private static void undoable(QuotaOverlay x, String what, Call call) {
-        long values = valuesOf(x);
-        int saved = savedStates(x);
-        call.answer();
-        due(what + " saves one state", x.undo(), saved);
-        due(what + " undone", valuesOf(x), values);
-    }
-
-    /** The number of saved states, or 2 if there are 3: no call tells it without losing the oldest one. */
-    private static int savedStates(QuotaOverlay x) {
-        x.tick(1);
-        return x.undo();
-    }
-
-    /** A hash of all values but the number of saved states and the script. */
-    private static long valuesOf(QuotaOverlay x) {
-        long hash = 1;
-        for (int what = 0; what <= 8; what++) {
-            hash = 1009 * (1009 * hash + x.overlay(what)) + x.count(what);
-        }
-        for (int i = 0; x.memberAt(i) != NONE; i++) {
-            int identity = x.memberAt(i);
-            for (int what = 0; what <= 4; what++) {
-                hash = 1009 * hash + x.member(identity, what);
-            }
-            hash = 1009 * hash + table(x, identity).hashCode();
-        }
-        return hash;
-    }
-
+public final class PromiseTest extends Checks {
     private static void newObject() {
-        promise = 1;
+        subject("promise 1");
         QuotaOverlay x = new QuotaOverlay();
         dueOverlay(x, 0, 0, 0, 2, 0, 2, 8, 100, 0);
         dueCounts(x, 0, 0, 0, 0, 0, 0, 0, 0, 0);
@@ -144,7 +18,7 @@ public final class PromiseTest {
     }
 
     private static void setPuzzles() {
-        promise = 2;
+        subject("promise 2");
         QuotaOverlay x = new QuotaOverlay();
         due("setPuzzles(6, 1000, 100)", x.setPuzzles(6, 1000, 100), 2);
         due("setPuzzles(0, 10, 5)", x.setPuzzles(0, 10, 5), 6);
@@ -170,7 +44,7 @@ public final class PromiseTest {
     }
 
     private static void setQuotas() {
-        promise = 3;
+        subject("promise 3");
         QuotaOverlay x = new QuotaOverlay();
         due("setQuotas(4, 32)", x.setQuotas(4, 32), 82);
         due("setQuotas(1, 1)", x.setQuotas(1, 1), 324);
@@ -189,7 +63,7 @@ public final class PromiseTest {
     }
 
     private static void tick() {
-        promise = 4;
+        subject("promise 4");
         QuotaOverlay x = new QuotaOverlay();
         x.admit(5, 0, NONE);
         due("tick(19)", x.tick(19), 0);
@@ -210,17 +84,8 @@ public final class PromiseTest {
         refused(x, "tick(-1)", ARGUMENT, () -> x.tick(-1));
     }
 
-    private static int smallestNonce(int identity, int epoch, int difficulty) {
-        for (int nonce = 0; nonce <= 99999; nonce++) {
-            if (zerosByHand(identity, nonce, epoch) >= difficulty) {
-                return nonce;
-            }
-        }
-        return NONE;
-    }
-
     private static void solve() {
-        promise = 5;
+        subject("promise 5");
         QuotaOverlay x = new QuotaOverlay();
         due("solve(5)", x.solve(5), 7);
         due("solve(0)", x.solve(0), 0);
@@ -248,19 +113,8 @@ public final class PromiseTest {
         refused(x, "solve(256)", ARGUMENT, () -> x.solve(256));
     }
 
-    private static int zerosByHand(int identity, int nonce, int epoch) {
-        BigInteger word = BigInteger.ONE.shiftLeft(32);
-        BigInteger h = BigInteger.valueOf(identity).multiply(BigInteger.valueOf(2654435761L))
-                .add(BigInteger.valueOf(nonce).multiply(BigInteger.valueOf(40503)))
-                .add(BigInteger.valueOf(epoch).multiply(BigInteger.valueOf(69069))).mod(word);
-        h = h.xor(h.shiftRight(15));
-        h = h.multiply(BigInteger.valueOf(2246822519L)).mod(word);
-        h = h.xor(h.shiftRight(13));
-        return 32 - h.bitLength();
-    }
-
     private static void zeros() {
-        promise = 6;
+        subject("promise 6");
         QuotaOverlay x = new QuotaOverlay();
         due("zeros(0, 0, 0)", x.zeros(0, 0, 0), 32);
         due("zeros(5, 0, 0)", x.zeros(5, 0, 0), 0);
@@ -281,7 +135,7 @@ public final class PromiseTest {
     }
 
     private static void join() {
-        promise = 7;
+        subject("promise 7");
         QuotaOverlay x = new QuotaOverlay();
         refused(x, "a nonce that does not solve", UNSUPPORTED, () -> x.join(5, 0, 0, NONE));
         refused(x, "a sponsor without members", UNSUPPORTED, () -> x.join(5, 0, 7, 5));
@@ -316,7 +170,7 @@ public final class PromiseTest {
     }
 
     private static void admit() {
-        promise = 8;
+        subject("promise 8");
         QuotaOverlay x = new QuotaOverlay();
         refused(x, "a sponsor without members", UNSUPPORTED, () -> x.admit(5, 0, 5));
         due("admit(5, 0, NONE)", x.admit(5, 0, NONE), 0);
@@ -344,7 +198,7 @@ public final class PromiseTest {
     }
 
     private static void leave() {
-        promise = 9;
+        subject("promise 9");
         QuotaOverlay x = withMembers(0, 128, 129);
         undoable(x, "leave", () -> x.leave(128));
         due("leave(128)", x.leave(128), 2);
@@ -361,7 +215,7 @@ public final class PromiseTest {
     }
 
     private static void swarm() {
-        promise = 10;
+        subject("promise 10");
         QuotaOverlay x = withMembers(250, 4);
         due("swarm(246, 4, 5, 3, 250)", x.swarm(246, 4, 5, 3, 250), 4);
         int[] members = {2, 4, 6, 246, 250, 254, NONE};
@@ -389,7 +243,7 @@ public final class PromiseTest {
     }
 
     private static void lookup() {
-        promise = 11;
+        subject("promise 11");
         QuotaOverlay x = withMembers(0, 128, 129, 64);
         due("lookup(128, 65)", x.lookup(128, 65), 64);
         due("lookup(128, 128)", x.lookup(128, 128), 128);
@@ -411,7 +265,7 @@ public final class PromiseTest {
 
     /** What a member learns, and for which reason it refuses, is seen best by its lookups. */
     private static void learning() {
-        promise = 11;
+        subject("promise 11");
         QuotaOverlay x = new QuotaOverlay();
         x.setPuzzles(0, 1000, 100);
         x.admit(0, 0, NONE);
@@ -447,7 +301,7 @@ public final class PromiseTest {
     }
 
     private static void fullBuckets() {
-        promise = 11;
+        subject("promise 11");
         QuotaOverlay x = withMembers(0);
         for (int identity = 128; identity < 132; identity++) {
             x.admit(identity, 0, 0);
@@ -465,7 +319,7 @@ public final class PromiseTest {
     }
 
     private static void probe() {
-        promise = 12;
+        subject("promise 12");
         QuotaOverlay x = withMembers(0, 128, 129, 64);
         x.leave(129);
         long before = x.digest();
@@ -490,7 +344,7 @@ public final class PromiseTest {
     }
 
     private static void reach() {
-        promise = 13;
+        subject("promise 13");
         QuotaOverlay x = withMembers(0, 128, 129, 64);
         long before = x.digest();
         due("reach(0)", x.reach(0), 256);
@@ -521,7 +375,7 @@ public final class PromiseTest {
     }
 
     private static void member() {
-        promise = 14;
+        subject("promise 14");
         QuotaOverlay x = withMembers(0, 128, 129);
         x.tick(7);
         x.admit(64, 5, 0);
@@ -543,7 +397,7 @@ public final class PromiseTest {
     }
 
     private static void memberAt() {
-        promise = 15;
+        subject("promise 15");
         QuotaOverlay x = withMembers(200, 0, 255, 7);
         int[] want = {0, 7, 200, 255, NONE};
         for (int index = 0; index < want.length; index++) {
@@ -554,7 +408,7 @@ public final class PromiseTest {
     }
 
     private static void entry() {
-        promise = 16;
+        subject("promise 16");
         QuotaOverlay x = withMembers(170);
         for (int bucket = 0; bucket < 8; bucket++) {
             int other = 170 ^ (128 >> bucket);
@@ -575,7 +429,7 @@ public final class PromiseTest {
     }
 
     private static void share() {
-        promise = 17;
+        subject("promise 17");
         QuotaOverlay x = withMembers(0);
         due("an empty table", x.share(0, 0), 0);
         x.admit(128, 3, 0);
@@ -594,7 +448,7 @@ public final class PromiseTest {
     }
 
     private static void overlay() {
-        promise = 18;
+        subject("promise 18");
         QuotaOverlay x = new QuotaOverlay();
         x.setPuzzles(1, 50, 7);
         x.setQuotas(3, 9);
@@ -610,7 +464,7 @@ public final class PromiseTest {
     }
 
     private static void count() {
-        promise = 19;
+        subject("promise 19");
         QuotaOverlay x = withMembers(0, 128);
         dueCounts(x, 2, 0, 1, 1, 0, 0, 0, 0, 1);
         x.leave(128);
@@ -631,7 +485,7 @@ public final class PromiseTest {
     }
 
     private static void type() {
-        promise = 20;
+        subject("promise 20");
         QuotaOverlay x = new QuotaOverlay();
         due("type(0)", x.type(0), 1);
         due("type(127)", x.type(127), 2);
@@ -646,7 +500,7 @@ public final class PromiseTest {
     }
 
     private static void clearScript() {
-        promise = 21;
+        subject("promise 21");
         QuotaOverlay x = new QuotaOverlay();
         x.type('x');
         x.type('y');
@@ -658,7 +512,7 @@ public final class PromiseTest {
     }
 
     private static void faults() {
-        promise = 22;
+        subject("promise 22");
         Object[][] faults = {
             {"join", 4}, {"joi", 0}, {"joinx 5", 0}, {"join5", 4}, {"join!", 4}, {"hop!", 0}, {"Join", 0},
             {" x", 1}, {"5", 0}, {";", 0}, {"tick 1;;", 7}, {"tick 1; ;", 8}, {"tick;", 4}, {"tick ;", 5},
@@ -683,7 +537,7 @@ public final class PromiseTest {
     }
 
     private static void run() {
-        promise = 22;
+        subject("promise 22");
         QuotaOverlay x = new QuotaOverlay();
         due("spaces alone", runOf(x, "   "), 0);
         due("a run of nothing is undoable", x.undo(), 0);
@@ -717,7 +571,7 @@ public final class PromiseTest {
     }
 
     private static void undo() {
-        promise = 23;
+        subject("promise 23");
         QuotaOverlay x = new QuotaOverlay();
         for (int i = 1; i <= 5; i++) {
             x.tick(i);
@@ -754,16 +608,8 @@ public final class PromiseTest {
         due("all is back", valuesOf(y), before);
     }
 
-    private static long hash(long... values) {
-        long h = 18554;
-        for (long v : values) {
-            h = 31 * h + v;
-        }
-        return h;
-    }
-
     private static void digest() {
-        promise = 24;
+        subject("promise 24");
         QuotaOverlay x = new QuotaOverlay();
         due("digest()", x.digest(), hash(0, 0, 0, 0, 0, 2, 0, 2, 8, 100, 0, 0, 0, 0, 0, 0, 0, 0, 0, 0));
         x.type('t');
@@ -805,9 +651,6 @@ public final class PromiseTest {
         run();
         undo();
         digest();
-        System.out.println(checks + " checks of promises, " + wrong + " wrong");
-        if (wrong != 0) {
-            System.exit(1);
-        }
+        finish("the promises");
     }
 }
