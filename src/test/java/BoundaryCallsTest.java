@@ -514,12 +514,16 @@ public final class BoundaryCallsTest extends Checks {
         promise(14, "4 tables of other members with an entry for it");
         due("none where it is alone", alone().member(100, 4), 0);
         QuotaOverlay x = full();
+        String[] tables = new String[24];
+        for (int index = 0; index < 24; index++) {
+            tables[index] = table(x, x.memberAt(index));
+        }
         int most = 0;
         for (int index = 0; index < 24; index++) {
             int identity = x.memberAt(index);
             int holders = 0;
-            for (int other = 0; other < 24; other++) {
-                holders += table(x, x.memberAt(other)).contains(":" + identity + "/") ? 1 : 0;
+            for (String table : tables) {
+                holders += table.contains(":" + identity + "/") ? 1 : 0;
             }
             due("tables with " + identity, x.member(identity, 4), holders);
             most = Math.max(most, holders);
@@ -795,6 +799,8 @@ public final class BoundaryCallsTest extends Checks {
         x.undo();
         x.undo();
         due("no state", x.digest(), digestByHand(x, 0, 120));
+        QuotaOverlay z = ends();
+        due("members at both ends", z.digest(), digestByHand(z, 3, 0));
         QuotaOverlay y = chain(8);
         y.leave(0);
         y.leave(4);

@@ -211,6 +211,26 @@ public final class BoundaryScriptsTest extends Checks {
         everyByte("hop", "", "", 0, 0);
     }
 
+    private static void almostWords() {
+        sentence("A word that is not one of these is at fault with its first byte");
+        String[][] commands = {{"join", " 1 2 3;"}, {"leave", " 1;"}, {"look", " 1 2;"}, {"tick", " 1;"}};
+        for (String[] command : commands) {
+            String word = command[0];
+            for (int i = 0; i < word.length(); i++) {
+                String front = word.substring(0, i);
+                String back = word.substring(i + 1);
+                dueFault(front + "x" + back + command[1], 0);
+                dueFault(front + back + command[1], 0);
+                dueFault(front + "z" + word.charAt(i) + back + command[1], 0);
+                dueFault(" " + front + "b" + back, 1);
+            }
+            dueFault(word + "a" + command[1], 0);
+            dueFault(word + word + command[1], 0);
+            dueFault(word, word.length());
+            dueRun(word + command[1], word.equals("join") || word.equals("tick") ? 1 : 0);
+        }
+    }
+
     private static void faultyRun() {
         sentence("if it has a fault, nothing is done");
         QuotaOverlay x = withMembers(1, 2);
@@ -419,6 +439,40 @@ public final class BoundaryScriptsTest extends Checks {
         due("members that end at 73", x.tick(1), 2);
     }
 
+    private static void membersAtTheEnds() {
+        sentence("saves the whole state but the script");
+        QuotaOverlay x = withMembers(0, 1, 254, 255);
+        long values = valuesOf(x);
+        int[] identities = {0, 1, 254, 255};
+        for (int identity : identities) {
+            x.leave(identity);
+            due("member(" + identity + ", 0)", x.member(identity, 0), 0);
+            x.undo();
+            due("all are back", valuesOf(x), values);
+            due("member(" + identity + ", 0)", x.member(identity, 0), 1);
+        }
+        QuotaOverlay y = withMembers(100);
+        for (int identity : identities) {
+            y.admit(identity, 0, 100);
+            y.undo();
+            due("member(" + identity + ", 0)", y.member(identity, 0), 0);
+        }
+    }
+
+    private static void fullOverlayBack() {
+        sentence("saves the whole state but the script");
+        QuotaOverlay x = full();
+        long values = valuesOf(x);
+        x.tick(500);
+        x.tick(500);
+        due("all ended", x.overlay(0), 0);
+        x.admit(255, 0, NONE);
+        x.undo();
+        x.undo();
+        x.undo();
+        due("all 24 and their tables are back", valuesOf(x), values);
+    }
+
     // ---- EXCEPTIONS
 
     private static void nothingChanges() {
@@ -555,6 +609,7 @@ public final class BoundaryScriptsTest extends Checks {
         faultIndex();
         tooSoon();
         badWords();
+        almostWords();
         faultyRun();
         stoppedRun();
         stoppedByFull();
@@ -567,6 +622,8 @@ public final class BoundaryScriptsTest extends Checks {
         latestThree();
         stackInTurns();
         wholeState();
+        membersAtTheEnds();
+        fullOverlayBack();
         nothingChanges();
         nothingChangesWhenEmpty();
         firstListedOfJoin();

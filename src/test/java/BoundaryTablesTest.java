@@ -166,6 +166,23 @@ public final class BoundaryTablesTest extends Checks {
         due("200 has no entry", !table(x, 0).contains(":200/"));
     }
 
+    private static void originsOfEntries() {
+        sentence("BUCKET_QUOTA (1): as many entries of the bucket as the bucket quota, or more, have the origin of b");
+        QuotaOverlay x = fullBucket();
+        x.leave(128);
+        x.admit(128, 7, 131);
+        x.setQuotas(1, 32);
+        // The member 128 is of origin 7 now, but its entry in the table of 0 is of origin 1: that is what counts.
+        dueTable(x, 0, "0:128/1 0:129/2 0:130/3 0:131/4");
+        x.admit(200, 1, 0);
+        dueTable(x, 0, "0:128/1 0:129/2 0:130/3 0:131/4");
+        due("refusals by a full bucket", x.count(7), 0);
+        x.leave(200);
+        x.admit(201, 7, 0);
+        dueTable(x, 0, "0:130/3 0:131/4 0:128/1 0:129/2");
+        due("refusals by a full bucket", x.count(7), 2);
+    }
+
     private static void tableQuotaReached() {
         sentence("TABLE_QUOTA (2): as many entries of the whole table as the table quota, or more, have the origin "
                 + "of b");
@@ -281,6 +298,28 @@ public final class BoundaryTablesTest extends Checks {
         due("by no other reason", x.count(5) + x.count(6), 0);
     }
 
+    /** 40 is not the first member, its full bucket is not its first one, and its buckets beside it have entries. */
+    private static QuotaOverlay fullBucketInTheMiddle() {
+        QuotaOverlay x = withMembers(200, 40);
+        for (int identity = 1; identity <= 4; identity++) {
+            x.admit(identity, identity, 40);
+        }
+        x.admit(48, 6, 40);
+        x.admit(49, 7, 40);
+        dueTable(x, 40, "0:200/0 2:1/1 2:2/2 2:3/3 2:4/4 3:48/6 3:49/7");
+        return x;
+    }
+
+    private static void fullInTheMiddle() {
+        sentence("FULL_BUCKET (3): the bucket has 4 entries, and the identity of the first one is that of a member; "
+                + "this entry then goes to the end");
+        QuotaOverlay x = fullBucketInTheMiddle();
+        int refusals = x.count(7);
+        x.admit(8, 5, 40);
+        dueTable(x, 40, "0:200/0 2:3/3 2:4/4 2:1/1 2:2/2 3:48/6 3:49/7");
+        due("refusals by a full bucket", x.count(7), refusals + 2);
+    }
+
     private static void fullOfOthers() {
         sentence("FULL_BUCKET (3): the bucket has 4 entries, and the identity of the first one is that of a member");
         QuotaOverlay x = fullBucket();
@@ -322,6 +361,15 @@ public final class BoundaryTablesTest extends Checks {
         x.admit(132, 5, 0);
         dueTable(x, 0, "0:129/2 0:130/3 0:131/4 0:132/5");
         due("entries", x.member(0, 3), 4);
+        due("refusals by a full bucket", x.count(7), 0);
+    }
+
+    private static void roomInTheMiddle() {
+        sentence("if the bucket has 4 entries, the first one is removed before");
+        QuotaOverlay x = fullBucketInTheMiddle();
+        x.leave(1);
+        x.admit(9, 5, 40);
+        dueTable(x, 40, "0:200/0 2:2/2 2:3/3 2:4/4 2:9/5 3:48/6 3:49/7");
         due("refusals by a full bucket", x.count(7), 0);
     }
 
@@ -407,6 +455,26 @@ public final class BoundaryTablesTest extends Checks {
         dueProbe(x, 2, 0, 2, 1, 1, 0);
     }
 
+    private static void manyKnown() {
+        sentence("It goes on step by step, at most 12 steps");
+        // As the chain, but each member also knows two that are gone, which are far from the target 0: every contact
+        // makes three more identities known, 39 in all, and each time just one of them is near.
+        QuotaOverlay x = open();
+        x.setQuotas(1, 1);
+        for (int identity = 0; identity <= 12; identity++) {
+            x.admit(identity, 0, identity == 0 ? NONE : identity - 1);
+            for (int origin = 1; origin <= 2; origin++) {
+                int far = 127 + 2 * identity + origin;
+                x.admit(far, origin, identity);
+                x.leave(far);
+            }
+            due("entries", x.member(identity, 3), identity == 0 ? 2 : 3);
+        }
+        dueTable(x, 7, "0:142/1 0:143/2 7:6/0");
+        dueProbe(x, 12, 0, 0, 12, 0, 1);
+        due("lookup(12, 0)", x.lookup(12, 0), 0);
+    }
+
     private static void threeKnown() {
         sentence("c is the known identity with the least distance to x of those among the three known identities with "
                 + "the least distances to x that were not contacted yet");
@@ -442,6 +510,20 @@ public final class BoundaryTablesTest extends Checks {
         due("dead contacts", x.count(4), 1);
     }
 
+    private static void deadContactInTheMiddle() {
+        sentence("and an entry for it in the table of a is removed, if there is one");
+        QuotaOverlay x = fullBucketInTheMiddle();
+        x.leave(2);
+        // 2, then 3 and 1 (which tell of nothing nearer), then 4, the third one now: in the order of their distances.
+        dueProbe(x, 40, 2, 3, 4, 1, 1);
+        x.lookup(40, 2);
+        dueTable(x, 40, "0:200/0 2:3/3 2:1/1 2:4/4 3:48/6 3:49/7");
+        x.leave(4);
+        dueProbe(x, 40, 4, 1, 4, 2, 1);
+        x.lookup(40, 4);
+        dueTable(x, 40, "0:200/0 2:1/1 2:3/3 3:48/6 3:49/7");
+    }
+
     private static void deadContactWithoutEntry() {
         sentence("(this is a dead contact, with or without an entry)");
         QuotaOverlay x = chain(3);
@@ -469,6 +551,30 @@ public final class BoundaryTablesTest extends Checks {
         due("steps: 0 and two dead ones", x.count(3), steps + 3);
         due("dead contacts", x.count(4), 2);
         dueTable(x, 0, "0:129/0 0:130/0 0:131/0 0:128/0");
+    }
+
+    private static void contactedLearnsAfterwards() {
+        sentence("the identities of the nearest entries of its table for x become known (a, if it is one of the three, is "
+                + "left out); then that member learns a");
+        QuotaOverlay x = open();
+        x.setQuotas(1, 32);
+        x.admit(0, 0, NONE);
+        int[] others = {128, 129, 130, 132};
+        for (int other : others) {
+            x.admit(other, 1, other == 128 ? 0 : 128);
+        }
+        x.leave(129);
+        x.leave(130);
+        x.leave(132);
+        // For their bucket of 0 has one of origin 1, 128 alone has entries for the three that left.
+        dueTable(x, 0, "0:128/1");
+        dueTable(x, 128, "0:0/0 5:132/1 6:130/1 7:129/1");
+        int steps = x.count(3);
+        // 192 contacts 0, 128 and the three: it is not in the table of 128 yet when that tells its nearest ones.
+        due("admit(192, 0, 0)", x.admit(192, 0, 0), 2);
+        due("steps", x.count(3), steps + 5);
+        due("dead contacts", x.count(4), 3);
+        dueTable(x, 128, "0:0/0 1:192/0 5:132/1 6:130/1 7:129/1");
     }
 
     private static void contactedLearnsFirst() {
@@ -548,6 +654,7 @@ public final class BoundaryTablesTest extends Checks {
         bucketQuotaReached();
         bucketQuotaPassed();
         bucketQuotaOfFour();
+        originsOfEntries();
         tableQuotaReached();
         tableQuotaPassed();
         deadEntriesCount();
@@ -556,21 +663,26 @@ public final class BoundaryTablesTest extends Checks {
         tableBeforeFull();
         bucketBeforeFull();
         fullOfMembers();
+        fullInTheMiddle();
         fullOfOthers();
         fullOfReturned();
         notFull();
         roomByTheFirst();
+        roomInTheMiddle();
         deadOnesStayWhereThereIsRoom();
         threeNearest();
         allIfFewer();
         nearestByTarget();
         twelveSteps();
         twelveStepsWithDeadOnes();
+        manyKnown();
         threeKnown();
         lookupEnds();
         deadContact();
+        deadContactInTheMiddle();
         deadContactWithoutEntry();
         askerLeftOut();
+        contactedLearnsAfterwards();
         contactedLearnsFirst();
         deadStaysUnknown();
         results();
